@@ -8,7 +8,8 @@ import java.util.NoSuchElementException;
 public final class LoopsToUnits {
     public static final int NONE = -1;
 
-    private static final int NOT_SO = -2;
+    /** It is so already, or there is none such. */
+    private static final int IN_VAIN = -2;
     private static final int MISSING = -3;
     private static final int NO_SUCH_LETTER = -200;
 
@@ -150,7 +151,7 @@ public final class LoopsToUnits {
             return MISSING;
         }
         if (n < 0) {
-            return NOT_SO;
+            return IN_VAIN;
         }
         return writeSheet(kind, n, f, step);
     }
@@ -231,7 +232,7 @@ public final class LoopsToUnits {
         }
         bounds.renew();
         if (!bounds.haveTimes(g)) {
-            return NOT_SO;
+            return IN_VAIN;
         }
         tellTimes(bounds.earliest, g * MOST_ACTS);
         return bounds.lengthBy(g);
@@ -243,7 +244,7 @@ public final class LoopsToUnits {
         }
         bounds.renew();
         if (!bounds.haveTimes(g)) {
-            return NOT_SO;
+            return IN_VAIN;
         }
         tellTimes(bounds.latest, g * MOST_ACTS);
         return bounds.fixedBy(g);
@@ -458,7 +459,7 @@ public final class LoopsToUnits {
             tellPools();
         }
         putPools(adders, multipliers, banksOfA, banksOfB);
-        return cost <= MOST_COST ? cost : NOT_SO;
+        return cost <= MOST_COST ? cost : IN_VAIN;
     }
 
     public int would(int what, int v) {
@@ -467,7 +468,7 @@ public final class LoopsToUnits {
         }
         int old = held.units[what];
         if (old == v) {
-            return NOT_SO;
+            return IN_VAIN;
         }
         int now = gapNow();
         putUnit(what, v);
@@ -620,7 +621,7 @@ public final class LoopsToUnits {
         }
         int old = held.units[what];
         if (old == v) {
-            return NOT_SO;
+            return IN_VAIN;
         }
         putUnit(what, v);
         return old;
@@ -646,7 +647,7 @@ public final class LoopsToUnits {
             return NONE;
         }
         if (held.cells[m * CELLS + x] == v) {
-            return NOT_SO;
+            return IN_VAIN;
         }
         held.cells[m * CELLS + x] = v;
         return 1;

@@ -52,11 +52,7 @@ public final class OracleTest {
     }
 
     private void text(String t) {
-        for (int p = 0; p < t.length(); p += 4) {
-            int v = 0;
-            for (int i = p; i < p + 4; i++) {
-                v = v << 8 | (i < t.length() ? t.charAt(i) & 255 : 0);
-            }
+        for (int v : Texts.fours(t)) {
             call("sign", v);
         }
         call("end", t.length());
