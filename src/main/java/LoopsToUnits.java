@@ -22,7 +22,7 @@ public final class LoopsToUnits {
     private static final int CELLS = 16;
     private static final int SLOTS = 2;
 
-    /** No ring is longer than 10 ACTS of 4 TICKS, and no ACT waits longer than for 9 others: by 60 there always is a PLAN. */
+    /** No ring is longer than 10 ACTS of 4 TICKS, and no ACT waits for more than 9 others: by 60 there is a PLAN. */
     private static final int MOST_GAP = 60;
     private static final int PARTS = 10;
 
@@ -1449,6 +1449,9 @@ public final class LoopsToUnits {
         }
 
         private boolean hasRoom(int k, int tick, int g) {
+            if (g < 1) {
+                return false;
+            }
             int pool = bounds.pools[k];
             int taken = 0;
             for (int i = 0; i < held.acts; i++) {

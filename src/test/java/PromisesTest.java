@@ -256,7 +256,13 @@ public final class PromisesTest {
         }
         is("3 BANKS", x.sets(2, 3), -1);
         is("3 BANKS", x.sets(3, 3), -1);
+        int[] least = {1, 1, 1, 1, 0, 0, 1, 1, 1};
+        for (int what = 0; what < 9; what++) {
+            is("sets(" + what + ") the least", x.sets(what, least[what]), greatest[what]);
+            x.undo();
+        }
         is("2 BANKS", x.sets(3, 2), 4);
+        is("9 are kept", x.count(14), 9);
         is("sets(9, 1)", x.sets(9, 1), -1);
         is("sets(-1, 1)", x.sets(-1, 1), -1);
         is("count(14)", x.count(14), 9);
@@ -491,9 +497,21 @@ public final class PromisesTest {
         is("0 .. 3 are one BANK of 4 by WAY 1", even.gap(), 3);
         even.sets(4, 0);
         is("by WAY 0 they are not", even.gap(), 1);
-        LoopsToUnits unknown = loop("n*1;A[a];A[0]");
+        LoopsToUnits halves = loop("A[7];A[8]");
+        halves.sets(2, 2);
+        halves.sets(4, 1);
+        is("7 and 8 are two BANKS by WAY 1", halves.gap(), 1);
+        LoopsToUnits behind = loop("n-1;A[n];A[a]");
+        behind.sets(2, 2);
+        is("c is two CELLS behind b of that TICK, a ROUND later: one BANK of 2", behind.gap(), 2);
+        behind.sets(2, 4);
+        is("and two BANKS of 4", behind.gap(), 1);
+        LoopsToUnits unknown = loop("n*1;A[a];A[1]");
         unknown.sets(2, 4);
         is("not known", unknown.gap(), 2);
+        LoopsToUnits any = loop("A[n];A[1]");
+        any.sets(2, 4);
+        is("n comes to all BANKS", any.gap(), 2);
         is("without ACTS", new LoopsToUnits().gap(), 0);
     }
 
@@ -718,6 +736,12 @@ public final class PromisesTest {
         rowIs(x, "[0]");
         is("GAP", x.gap(), 3);
         is("a ring", loop(RING).cheapest(5), -2);
+        LoopsToUnits all = loop("n+1;n+2;n+3;n+4;A[0];A[1];A[2];B[0];B[1];B[2]");
+        all.sets(3, 2);
+        is("cheapest(1)", all.cheapest(1), 4 + 3 + 4 + 4);
+        rowIs(all, "[4, 1, 4, 4]");
+        is("BANKS of B stay", all.count(8), 2);
+        is("GAP stays", all.gap(), 4);
         is("without ACTS", new LoopsToUnits().cheapest(1), 6);
     }
 
