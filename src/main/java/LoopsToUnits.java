@@ -1239,15 +1239,18 @@ public final class LoopsToUnits {
         }
 
         /**
-         * TIMES rise from 0 till all BOUNDS hold. What still rises behind as many sweeps as there are ACTS goes round a
-         * ring, by the same PARTS each time, and so to 1000 and beyond; without such a ring no TIME comes near 1000.
+         * TIMES rise from 0 till all BOUNDS hold. A way along BOUNDS that makes a TIME passes each ACT that is no SUM
+         * once, but a SUM once between each two of those, as they wait for the begin of a TICK. What still rises behind
+         * so many sweeps goes round a ring, and so to 1000 and beyond; without such a ring no TIME comes near 1000.
          */
         private boolean findsEarliest(int g) {
             int from = g * MOST_ACTS;
             for (int k = 0; k < held.acts; k++) {
                 earliest[from + k] = 0;
             }
-            for (int sweep = 0; sweep <= held.acts; sweep++) {
+            int sums = held.countSorts(ADD, LESS);
+            int sweeps = (sums + 1) * (held.acts - sums + 1);
+            for (int sweep = 0; sweep < sweeps; sweep++) {
                 if (!raises(from, g)) {
                     return true;
                 }

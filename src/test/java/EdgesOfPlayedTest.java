@@ -1,0 +1,156 @@
+/** Boundary cases of promises 29 to 31: plays, machine, saves. */
+public final class EdgesOfPlayedTest {
+    private static final String STREAM = "A[n];a*3;b+1;B[n]=c";
+    private static final int[] NO_ROUNDS = {-1, 41, Probe.MIN, Probe.MAX};
+
+    static Edges all() {
+        Edges e = new Edges();
+        plays(e);
+        machine(e);
+        machineAsPlayed(e);
+        saves(e);
+        return e;
+    }
+
+    private static void plays(Edges e) {
+        e.promise(29);
+        e.edge("n ROUNDS (0 .. 40) are played as told, and forgotten", p -> {
+            p.loop("A[n];a+1;A[n]=b;B[0]=n");
+            p.x.writes(0, 15, 9);
+            String before = p.held();
+            p.is("40: 40 and 9, and 39 in B", p.x.plays(40), 40 + 9 + 39);
+            p.row("2 3 3 39");
+            p.same("all", p.held(), before);
+            p.is("nothing can be undone of it", p.x.count(14), 2);
+            p.is("once more", p.x.plays(40), 40 + 9 + 39);
+            p.is("1", p.x.plays(1), 1 + 9);
+            p.row("0 1 1 0");
+        });
+        e.edge("the sum of all CELLS of A and B then, as an int", p -> {
+            p.x.writes(0, 0, Probe.MAX);
+            p.x.writes(0, 15, 1);
+            p.is("it wraps", p.x.plays(0), Probe.MIN);
+            p.x.writes(1, 15, Probe.MAX);
+            p.is("A and B", p.x.plays(0), -1);
+            p.x.writes(1, 0, -5);
+            p.is("below 0", p.x.plays(40), -6);
+        });
+        e.edge("the ROW: VALUES of ACTS in the last one (0 with no ROUND)", p -> {
+            p.x.least();
+            p.is("without ACTS", p.x.plays(40), 0);
+            p.row("");
+            p.loop("n+5;a'*a''");
+            p.x.plays(40);
+            p.row("44 1806");
+            p.x.plays(0);
+            p.row("0 0");
+            p.x.plays(2);
+            p.row("6 0");
+        });
+        e.edge("NONE: another n", p -> {
+            p.loop("A[n]=1");
+            p.x.least();
+            for (int n : NO_ROUNDS) {
+                p.keepsAll("plays(" + n + ")", () -> p.x.plays(n), -1);
+            }
+        });
+    }
+
+    private static void machine(Edges e) {
+        e.promise(30);
+        e.edge("how many TICKS it takes till all is READY (0 without ACTS or ROUNDS)", p -> {
+            p.is("without ACTS", p.x.machine(40), 0);
+            p.is("without both", p.x.machine(0), 0);
+            p.loop(STREAM);
+            p.is("without ROUNDS", p.x.machine(0), 0);
+            p.is("1", p.x.machine(1), 6);
+            p.is("2", p.x.machine(2), 7);
+            p.is("40", p.x.machine(40), 45);
+            p.loop("n+1;n+2;n+3");
+            p.is("1, of 3 TICKS", p.x.machine(1), 3);
+            p.is("40, each 3 TICKS behind", p.x.machine(40), 120);
+        });
+        e.edge("the ROW: VALUES of ACTS in the last one (0 with no ROUND), the sum of all CELLS of A and B then, as an int", p -> {
+            p.x.writes(0, 1, Probe.MAX);
+            p.x.writes(1, 2, Probe.MAX);
+            p.x.machine(7);
+            p.row("-2");
+            p.loop("n+5;A[a]=n");
+            p.x.machine(0);
+            p.row("0 0 -2");
+            p.x.machine(1);
+            p.row("5 0 -2");
+            p.x.machine(3);
+            p.row("7 2 1");
+        });
+        e.edge("(It is forgotten.)", p -> {
+            p.loop("A[n];a+1;A[n]=b");
+            String before = p.held();
+            p.x.machine(40);
+            p.row("2 3 3 40");
+            p.same("all", p.held(), before);
+            p.is("nothing can be undone of it", p.x.count(14), 1);
+            p.x.machine(1);
+            p.row("0 1 1 1");
+        });
+        e.edge("NONE: another n", p -> {
+            p.loop("A[n]=1");
+            p.x.least();
+            for (int n : NO_ROUNDS) {
+                p.keepsAll("machine(" + n + ")", () -> p.x.machine(n), -1);
+            }
+        });
+    }
+
+    /** BOUNDS hold in THE PLAN, so that the machine comes to what is told. */
+    private static void machineAsPlayed(Edges e) {
+        String[] loops = {STREAM, "A[n];a*3;b+1;A[n]=c", "A[n];n+1;A[b]=a;a*a'", "b'+n;a'*3;n-a;A[c]=b;A[b];e+d''", "A[0];a+1;A[0]=b;A[0];d<5",
+            "n*n;a+b';b+b'';B[c];B[a]=d;d'+e", "n+1;a+1;b+1;c'+b;d+d'", "j'+1;a*2;b<a;A[c]=a;A[d];e-c';f*f'';B[g]=h';B[f];h+i"};
+        e.edge("each ROUND GAP TICKS behind the one ahead", p -> {
+            for (String loop : loops) {
+                Probe q = p.fresh(loop);
+                q.memory(0, "3,1,4,1,5,9,2,6");
+                q.memory(1, "-2,7,1,8");
+                q.x.sets(0, 2);
+                q.x.sets(2, 4);
+                for (int n = 0; n <= 40; n += 5) {
+                    int sum = q.x.plays(n);
+                    String values = q.row();
+                    q.is("TICKS of " + loop, q.x.machine(n), n == 0 ? 0 : (n - 1) * q.x.gap() + q.x.length());
+                    q.x.machine(n);
+                    q.row(values + " " + sum);
+                }
+            }
+        });
+    }
+
+    private static void saves(Edges e) {
+        e.promise(31);
+        e.edge("1000 and so many (below 1000, if it takes more)", p -> {
+            p.x.least();
+            String row = p.row();
+            p.is("without ACTS", p.x.saves(40), 1000);
+            p.loop(STREAM);
+            p.is("0", p.x.saves(0), 1000);
+            p.is("1", p.x.saves(1), 1000);
+            p.is("2", p.x.saves(2), 1005);
+            p.is("40", p.x.saves(40), 1195);
+            p.row(row);
+            p.loop("n+1;n+2;n+3");
+            p.is("GAP as long as length()", p.x.saves(40), 1000);
+            p.loop("n*1;a*2;b+1;n+1");
+            p.is("as machine() and length() tell", p.x.saves(9), 1000 + 9 * p.x.length() - p.x.machine(9));
+        });
+        e.edge("NONE: n is not 0 .. 40", p -> {
+            p.loop(STREAM);
+            p.x.least();
+            for (int n : NO_ROUNDS) {
+                p.keepsAll("saves(" + n + ")", () -> p.x.saves(n), -1);
+            }
+        });
+    }
+
+    public static void main(String[] args) {
+        all().end(29, 31);
+    }
+}
