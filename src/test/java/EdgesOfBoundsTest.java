@@ -50,6 +50,22 @@ public final class EdgesOfBoundsTest {
         });
     }
 
+    /** What is asked by one G is the same whether it was asked by the next one ahead of it or not. */
+    private static void side(Probe q, Probe r, int g) {
+        q.is("by " + g, q.x.earliest(g) > 0, true);
+        String row = q.row();
+        r.x.earliest(g + 1);
+        String next = r.row();
+        r.x.earliest(g);
+        r.row(row);
+        r.x.earliest(g + 1);
+        r.row(next);
+        q.x.earliest(g + 1);
+        q.row(next);
+        q.x.earliest(g);
+        q.row(row);
+    }
+
     private static void earliest(Edges e) {
         e.promise(15);
         e.edge("EARLIEST by G (1 .. 60): LENGTH; the ROW: TIMES of ACTS", p -> {
@@ -62,6 +78,14 @@ public final class EdgesOfBoundsTest {
             p.row("0 0");
             p.is("by 60", p.x.earliest(60), 2);
             p.row("0 0");
+        });
+        e.edge("EARLIEST by G (1 .. 60)", p -> {
+            String far = "b'+0;c'*0;d'+0;e'+0;a+f';g'*1;h'*1;i'*1;j'*1;1*1";
+            String farther = "b'+1;c'+1;d'+d';a+e';1+g';1*1;1+h';f+i';j'+i'';a*c''";
+            for (int g = 1; g < 60; g++) {
+                side(p.fresh(far).with(6, 2).with(7, 3), p.fresh(far).with(6, 2).with(7, 3), g);
+                side(p.fresh(farther).with(7, 4), p.fresh(farther).with(7, 4), g);
+            }
         });
         e.edge("-2: there are none", p -> {
             p.loop(RING);
@@ -129,9 +153,10 @@ public final class EdgesOfBoundsTest {
                 "j'+1;a+1;b+1;c+1;d+1;e+1;f+1;g+1;h+1;i+1", "b'+1;c'+1;d'+1;e'+1;f'+1;g'+1;h'+1;i'+1;j'+1;a+1"};
             int[] knots = {0, 0, 1, 1, 0, 3, 0, 5, 0, 3, 0, 31, 0, 6, 1023, 1023};
             for (int i = 0; i < loops.length; i++) {
-                Probe q = p.fresh(loops[i]);
-                q.is(loops[i], q.x.knots(), knots[i]);
-                q.row(Integer.toString(Integer.bitCount(knots[i])));
+                p.x.least();
+                p.loop(loops[i]);
+                p.is(loops[i], p.x.knots(), knots[i]);
+                p.row(Integer.toString(Integer.bitCount(knots[i])));
             }
         });
     }

@@ -262,6 +262,18 @@ public final class EdgesOfChangesTest {
                 p.is("CELL", p.x.cell(0, 0), left + 21);
             }
         });
+        e.edge("of 9 that are kept", p -> {
+            for (int v = 1; v <= 9; v++) {
+                p.x.writes(0, 0, v);
+            }
+            p.keepsAll("a refused one is none of them", () -> p.x.sets(0, 5), -1);
+            p.keepsAll("nor one that is so", () -> p.x.writes(0, 0, 9), -2);
+            p.is("nor a day of which nothing was done", p.day("wA009"), 0);
+            for (int left = 8; left >= 0; left--) {
+                p.is("undo()", p.x.undo(), left);
+                p.is("CELL", p.x.cell(0, 0), left);
+            }
+        });
         e.edge("such as were done, with empty texts, too", p -> {
             p.is("an empty loop()", p.x.loop(), 0);
             p.is("kept", p.x.count(14), 1);

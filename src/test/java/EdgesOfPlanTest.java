@@ -1,3 +1,9 @@
+import java.util.ArrayList;
+import java.util.Arrays;
+import java.util.HashSet;
+import java.util.List;
+import java.util.Set;
+
 /** Boundary cases of promises 19 to 28: gap, begins, why, plan, length, state, tick, registers, binds, shares. */
 public final class EdgesOfPlanTest {
     private static final String RING = "A[n];a*3;b+1;A[n]=c";
@@ -313,6 +319,15 @@ public final class EdgesOfPlanTest {
             p.loop("j'+1;i''+1;1+1;1+1;1+1;1+1;1+1;1+1;1+1;n+j''");
             p.is("j', i'', 1, n; 1, j''", p.x.binds(0), 4);
         });
+        e.edge("different OPERANDS (as told", p -> {
+            String all = "0123456789nabcdefgh";
+            for (int i = 0; i < 39; i++) {
+                for (int j = 0; j <= i; j++) {
+                    Probe q = p.fresh("A[0];A[0];A[0];A[0];A[0];A[0];A[0];A[0];" + operand(all, i) + "-1;" + operand(all, j) + "<1");
+                    q.is(operand(all, i) + " and " + operand(all, j), q.x.binds(0), i == j ? 0 : 1);
+                }
+            }
+        });
         e.edge("less 1 (none: 0), added up: how many", p -> {
             p.is("without ACTS", p.x.binds(0), 0);
             p.row("");
@@ -332,7 +347,68 @@ public final class EdgesOfPlanTest {
         });
     }
 
+    /** One of 39 OPERANDS: single signs, then a' .. j', a'' .. j''. */
+    private static String operand(String all, int i) {
+        int letter = i - all.length();
+        return letter < 0 ? all.substring(i, i + 1) : (char) ('a' + letter % 10) + (letter < 10 ? "'" : "''");
+    }
+
+    /** SWITCHES of a row of units (below 0: two in one TICK are at one unit). */
+    private static int switches(Probe p, List<Integer> acts, int[] units) {
+        int gap = p.x.gap();
+        Set<String> there = new HashSet<>();
+        Set<String> sides = new HashSet<>();
+        Set<Integer> used = new HashSet<>();
+        for (int i = 0; i < units.length; i++) {
+            if (!there.add(units[i] + " in " + p.x.begins(acts.get(i)) / 10 % gap)) {
+                return -1;
+            }
+            sides.add(units[i] + " first " + p.x.act(acts.get(i), 2));
+            sides.add(units[i] + " second " + p.x.act(acts.get(i), 3));
+            used.add(units[i]);
+        }
+        return sides.size() - 2 * used.size();
+    }
+
+    /** The fewest SWITCHES of SUMS and the least row of as few, by looking at all of them. */
+    private static String fewest(Probe p, int adders) {
+        List<Integer> sums = new ArrayList<>();
+        for (int k = 0; k < p.x.count(0); k++) {
+            if (p.x.act(k, 0) <= 2) {
+                sums.add(k);
+            }
+        }
+        int[] row = new int[sums.size()];
+        String best = "";
+        int few = 99;
+        for (int code = 0; code < Math.pow(adders, row.length); code++) {
+            int rest = code;
+            for (int i = row.length - 1; i >= 0; i--) {
+                row[i] = rest % adders;
+                rest /= adders;
+            }
+            int many = switches(p, sums, row);
+            if (many >= 0 && many < few) {
+                few = many;
+                best = many + ": " + Arrays.toString(row).replaceAll("[\\[\\],]", "");
+            }
+        }
+        return best;
+    }
+
     private static void bindsLeast(Edges e) {
+        e.edge("SWITCHES are the fewest", p -> {
+            String[] loops = {"n+1;2+n;n+3;2-4;n<1", "n+1;a+1;n+2;a+2;b+1;3+n", "1+2;3+4;1+4;3+2;n*1;5+2", "n+n;a+a;a+n;n+a;b-c;c-b",
+                "1+2;2+1;1+1;2+2;n+1;1+n", "a'+1;1+a';a''+1;1+a'';b'+1;1+b'"};
+            for (String loop : loops) {
+                for (int adders = 1; adders <= 4; adders++) {
+                    Probe q = p.fresh(loop);
+                    q.x.sets(0, adders);
+                    int many = q.x.binds(0);
+                    q.same(loop + " by " + adders, many + ": " + q.row(), fewest(p.fresh(loop).with(0, adders), adders));
+                }
+            }
+        });
         e.edge("so that SWITCHES are the fewest", p -> {
             // b and c begin in TICKS that are 0 modulo 2, so that d is bound with one of them.
             p.loop("n*1;a+1;n+2;5+1");

@@ -8,6 +8,7 @@ public final class EdgesOfPlayedTest {
         plays(e);
         machine(e);
         machineAsPlayed(e);
+        machineInTick(e);
         saves(e);
         return e;
     }
@@ -83,6 +84,17 @@ public final class EdgesOfPlayedTest {
             p.x.machine(3);
             p.row("7 2 1");
         });
+        e.edge("LOADS take what their CELL holds at the begin of their TICK, STORES write at its end", p -> {
+            p.loop("A[0];A[0]=n;A[0];B[1]=c;B[1]");
+            p.x.writes(0, 0, 70);
+            p.is("TICKS of one ROUND", p.x.machine(1), 7);
+            p.row("70 0 0 0 0 0");
+            p.x.gap();
+            p.row("0 1 2 4 5");
+            p.is("GAP", p.x.gap(), 3);
+            p.x.machine(5);
+            p.row("3 4 4 4 4 8");
+        });
         e.edge("(It is forgotten.)", p -> {
             p.loop("A[n];a+1;A[n]=b");
             String before = p.held();
@@ -102,24 +114,49 @@ public final class EdgesOfPlayedTest {
         });
     }
 
+    private static Probe withMemories(Probe p) {
+        p.memory(0, "3,1,4,1,5,9,2,6");
+        p.memory(1, "-2,7,1,8");
+        p.x.sets(0, 2);
+        p.x.sets(1, 2);
+        p.x.sets(2, 4);
+        p.x.sets(8, 1);
+        return p;
+    }
+
     /** BOUNDS hold in THE PLAN, so that the machine comes to what is told. */
     private static void machineAsPlayed(Edges e) {
         String[] loops = {STREAM, "A[n];a*3;b+1;A[n]=c", "A[n];n+1;A[b]=a;a*a'", "b'+n;a'*3;n-a;A[c]=b;A[b];e+d''", "A[0];a+1;A[0]=b;A[0];d<5",
-            "n*n;a+b';b+b'';B[c];B[a]=d;d'+e", "n+1;a+1;b+1;c'+b;d+d'", "j'+1;a*2;b<a;A[c]=a;A[d];e-c';f*f'';B[g]=h';B[f];h+i"};
+            "n*n;a+b';b+b'';B[c];B[a]=d;d'+e", "n+1;a+1;b+1;c'+b;d+d'", "c'+n;A[n];b+1", "b'*1;n*3", "j'+1;a*2;b<a;A[c]=a;A[d];e-c';f*f'';B[g]=h';B[f];h+i"};
         e.edge("each ROUND GAP TICKS behind the one ahead", p -> {
             for (String loop : loops) {
-                Probe q = p.fresh(loop);
-                q.memory(0, "3,1,4,1,5,9,2,6");
-                q.memory(1, "-2,7,1,8");
-                q.x.sets(0, 2);
-                q.x.sets(2, 4);
                 for (int n = 0; n <= 40; n += 5) {
-                    int sum = q.x.plays(n);
-                    String values = q.row();
-                    q.is("TICKS of " + loop, q.x.machine(n), n == 0 ? 0 : (n - 1) * q.x.gap() + q.x.length());
-                    q.x.machine(n);
-                    q.row(values + " " + sum);
+                    Probe told = withMemories(p.fresh(loop));
+                    Probe made = withMemories(p.fresh(loop));
+                    int sum = told.x.plays(n);
+                    made.is("TICKS of " + loop, made.x.machine(n), n == 0 ? 0 : (n - 1) * told.x.gap() + told.x.length());
+                    told.x.plays(n);
+                    made.row(told.row() + " " + sum);
                 }
+            }
+        });
+    }
+
+    private static void machineInTick(Edges e) {
+        e.edge("n ROUNDS (0 .. 40) are done by THE PLAN, TICK by TICK", p -> {
+            // In each TICK d, c and b begin one behind the other, of three ROUNDS, each with the VALUE of the one ahead.
+            String loop = "b'+n;c'+n;d'+n;e'+n;n*n";
+            for (int n = 0; n <= 40; n++) {
+                Probe made = p.fresh(loop).with(0, 4).with(6, 3).with(7, 4);
+                made.is("TICKS", made.x.machine(n), n == 0 ? 0 : n + 3);
+                Probe told = p.fresh(loop);
+                told.x.plays(n);
+                made.row(told.row() + " 0");
+            }
+            Probe plan = p.fresh(loop).with(0, 4).with(6, 3).with(7, 4);
+            int[] times = {10, 16, 23, 30, 0};
+            for (int k = 0; k < times.length; k++) {
+                plan.is("begins(" + k + ")", plan.x.begins(k), times[k]);
             }
         });
     }

@@ -49,6 +49,9 @@ public final class EdgesOfTermsTest {
             p.refusesLoop("10+1", 1);
             p.refusesLoop("m+1", 0);
             p.refusesLoop("o+1", 0);
+            p.refusesLoop("`+1", 0);
+            p.refusesLoop("`'+1", 0);
+            p.refusesLoop("k+1", 0);
             p.refusesLoop("/+1", 0);
             p.refusesLoop(":+1", 0);
         });
@@ -162,6 +165,13 @@ public final class EdgesOfTermsTest {
                 p.row(chainOfSums(delay));
             }
         });
+        e.edge("TIMES are PARTS from 0 on", p -> {
+            p.loop("b'+1;n+1;b''*1;a''*1");
+            p.x.earliest(1);
+            p.row("0 0 0 0");
+            p.x.earliest(60);
+            p.row("0 0 0 0");
+        });
         e.edge("the others at the begin of a TICK alone", p -> {
             p.loop("n+1;a*1;A[a];B[a]=1;b+c");
             p.x.earliest(1);
@@ -209,6 +219,14 @@ public final class EdgesOfTermsTest {
                 q.is(loops[i] + " by 1", q.x.earliest(1) < 0, i >= 4);
             }
         });
+        e.edge("begins one TICK behind the begin of the earlier one at the earliest", p -> {
+            // As many BOUNDS as there can be: two by OPERANDS of each ACT, and two of each pair.
+            p.loop("A[a']=a';A[a]=a;A[a]=b;A[a]=b;A[a]=b;A[a]=b;A[a]=b;A[a]=b;A[a]=b;A[a]=b");
+            p.is("by 10", p.x.earliest(10), 10);
+            p.row("0 10 20 30 40 50 60 70 80 90");
+            p.is("by 9", p.x.earliest(9), -2);
+            p.is("GAP", p.x.gap(), 10);
+        });
         e.edge("the earlier one one TICK less G TICKS behind the begin of the later one", p -> {
             p.loop("A[0]=1;n*1;A[b]");
             p.x.sets(7, 4);
@@ -234,6 +252,10 @@ public final class EdgesOfTermsTest {
             far.row("1 4 6 0 0");
             far.x.sets(6, 3);
             far.is("and by a DELAY of 3 for ever", far.x.earliest(1), -2);
+            Probe farther = p.fresh("b'+1;c'+1;d'+d';a+e';1+g';1*1;1+h';f+i';j'+i'';a*c''");
+            farther.x.sets(7, 4);
+            farther.is("three rings", farther.x.earliest(1), 6);
+            farther.row("14 20 24 30 34 0 40 44 50 20");
             Probe slow = p.fresh("c'+1;a+1;b+1");
             slow.is("4 PARTS each TICK are too many", slow.x.earliest(1), -2);
             slow.is("12 PARTS in 2 TICKS", slow.x.earliest(2), 2);
@@ -306,6 +328,15 @@ public final class EdgesOfTermsTest {
             p.x.sets(6, 3);
             p.x.latest(1);
             p.row("14 17 0 0 10");
+            Probe chain = p.fresh(SUMS);
+            chain.x.latest(1);
+            chain.row("2 6 12 16 22 26 32 36 42 46");
+            chain.x.sets(6, 3);
+            chain.x.latest(1);
+            chain.row("7 11 14 17 21 24 27 31 34 37");
+            chain.x.sets(6, 6);
+            chain.x.latest(1);
+            chain.row("4 14 24 34 44 54 64 74 84 94");
             Probe ring = p.fresh("A[0]=1;n*1;A[b]");
             ring.x.latest(2);
             ring.row("10 0 20");
@@ -433,7 +464,7 @@ public final class EdgesOfTermsTest {
             q.row("0 0 1 1");
         });
         e.edge("both ADDRESSES are known", p -> {
-            for (String act : new String[] {"A[b];A[0]", "A[0];A[b]", "A[a'];A[0]", "A[b];A[b]"}) {
+            for (String act : new String[] {"A[b];A[1]", "A[2];A[b]", "A[a'];A[3]", "A[1];A[a'']", "A[b];A[b]", "A[b];A[n]", "A[a];A[b]"}) {
                 Probe q = p.fresh("n+1;n*0;" + act);
                 q.x.sets(2, 4);
                 q.is(act, q.x.gap(), 2);

@@ -83,6 +83,32 @@ public final class EdgesOfTextsTest {
             p.is("none of none", p.x.end(0), true);
             p.is("an empty text", p.x.loop(), 0);
         });
+        e.edge("its first n signs alone", p -> {
+            String[] whole = {"A[n]", "A[n]=1", "1+1;b'+1", "1+a'", "1+a''", "1+1;a+b", "1+1", "1+1;"};
+            int[] cut = {3, 5, 5, 3, 4, 6, 2, 4};
+            int[] at = {3, 5, 4, 2, -1, 6, 2, 4};
+            for (int i = 0; i < whole.length; i++) {
+                p.tell(whole[i]);
+                p.x.end(cut[i]);
+                p.is(whole[i] + " cut to " + cut[i], p.x.loop(), at[i] < 0 ? 1 : -1 - at[i]);
+            }
+            p.tell("-12,34");
+            p.x.end(4);
+            p.is("a memory", p.x.memory(0), -5);
+            p.tell("-12,34");
+            p.x.end(1);
+            p.is("a memory", p.x.memory(0), -2);
+            p.tell("12,34");
+            p.x.end(1);
+            p.is("a memory", p.x.memory(0), 1);
+            p.is("CELL 0", p.x.cell(0, 0), 1);
+            p.tell("u02wA015r1");
+            p.x.end(9);
+            p.is("a day", p.x.day(), -10);
+            p.tell("u02wA015r1");
+            p.x.end(3);
+            p.is("a day", p.x.day(), 1);
+        });
         e.edge("false if it has not so many", p -> {
             p.keepsAll("1 of none", () -> Probe.bit(p.x.end(1)), 0);
             p.x.sign(0x312b3131);
@@ -114,6 +140,16 @@ public final class EdgesOfTextsTest {
             p.is("2, in the place of 10", p.loop("n+1;B[a]=2"), 2);
             p.same("ACTS", p.acts(), "0 -1 10 1 5 1 11 2");
         });
+        e.edge("THE TEXT is THE LOOP", p -> {
+            String[] loops = {"n*1;n*2;b*3", "A[5];b'*1;n*1", "A[n];A[0]=a;a'+b", "n+1;n+2;n-3;A[c];A[b]=a;A[n]", "c'+n;A[n];b+1", "A[n]", "c'+1;a+1;b+1", "",
+                "b'+n;c'+n;d'+n;e'+n;n*n"};
+            p.x.sets(0, 2);
+            for (int i = 0; i < 2 * loops.length; i++) {
+                String text = loops[i % loops.length];
+                p.loop(text);
+                p.same("all that is asked of " + text, asked(p), asked(p.fresh(text).with(0, 2)));
+            }
+        });
         e.edge("-200: a letter with ' is of no ACT (asked behind it)", p -> {
             p.is("the last one's", p.loop("1+1;b'+1"), 2);
             p.refusesText("1+1;c'+1", p.x::loop, -200);
@@ -128,6 +164,26 @@ public final class EdgesOfTextsTest {
             p.refusesLoop("c'+1;", 5);
             p.refusesLoop("j'+1;" + TEN, 40);
         });
+    }
+
+    /** Answers and ROWS of questions, as one text. */
+    private static String asked(Probe p) {
+        StringBuilder all = new StringBuilder(p.acts());
+        java.util.function.IntConsumer note = answer -> all.append(" / ").append(answer).append(": ").append(p.row());
+        note.accept(p.x.least());
+        note.accept(p.x.gap());
+        note.accept(p.x.why());
+        note.accept(p.x.knots());
+        note.accept(p.x.earliest(3));
+        note.accept(p.x.latest(3));
+        note.accept(p.x.registers());
+        note.accept(p.x.binds(1));
+        note.accept(p.x.machine(3));
+        for (int k = 0; k < p.x.count(0); k++) {
+            note.accept(p.x.address(k));
+            note.accept(p.x.begins(k));
+        }
+        return all.toString();
     }
 
     private static void loopWrong(Edges e) {
@@ -328,7 +384,9 @@ public final class EdgesOfTextsTest {
             p.same("A", p.cells(0), "-1 -2 -3 0 0 0 0 0 0 0 0 0 0 0 0 0");
         });
         e.edge("those behind the last become 0: how many CELLS are not 0 then", p -> {
-            p.x.writes(1, 7, 7);
+            for (int i = 0; i < 16; i++) {
+                p.x.writes(1, i, 7);
+            }
             p.is("16", p.x.sheet(2, 16, 1, 1), 16);
             p.same("A", p.cells(0), "1 2 3 4 5 6 7 8 9 10 11 12 13 14 15 16");
             p.is("15", p.x.sheet(2, 15, 1, 1), 15);
@@ -336,7 +394,7 @@ public final class EdgesOfTextsTest {
             p.is("one of them 0", p.x.sheet(2, 5, -2, 1), 4);
             p.is("none", p.x.sheet(2, 0, 9, 9), 0);
             p.same("A", p.cells(0), Probe.ZEROS);
-            p.is("of B nothing changed", p.x.cell(1, 7), 7);
+            p.same("B stays", p.cells(1), "7 7 7 7 7 7 7 7 7 7 7 7 7 7 7 7");
         });
         e.edge("Nothing is kept of it that could be undone (an undo() behind it brings CELLS back, too, as they were ahead of what is undone)", p -> {
             p.x.sheet(2, 2, 5, 1);

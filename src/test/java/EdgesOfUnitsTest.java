@@ -30,6 +30,10 @@ public final class EdgesOfUnitsTest {
             p.x.sets(4, 1);
             p.is("CELLS 0 and 2 of A are in one BANK by WAY 1", p.x.cheapest(1), -2);
             p.is("by 2 that is no matter", p.x.cheapest(2), 10);
+            p.is("no more than 3 MULTIPLIERS", p.fresh("n*1;n*2;n*3;n*4").x.cheapest(1), -2);
+            p.is("no more than 4 BANKS", p.fresh("A[0];A[1];A[2];A[3];A[4]").x.cheapest(1), -2);
+            p.is("nor of B", p.fresh("B[0];B[1];B[2];B[3];B[4]").x.cheapest(1), -2);
+            p.is("4 BANKS of each", p.fresh("A[0];A[1];A[2];A[3];B[0];B[1];B[2];B[3]").x.cheapest(1), 1 + 3 + 4 + 4);
             p.loop("n+1;n+2;n+3;n+4;n+5");
             p.is("no more than 4 ADDERS", p.x.cheapest(1), -2);
             p.is("by 2", p.x.cheapest(2), 8);
@@ -86,9 +90,11 @@ public final class EdgesOfUnitsTest {
             p.row("0 0 1 0 0");
             p.is("length()", p.x.length(), 2);
             Probe ring = p.fresh(RING);
-            ring.x.sets(0, 3);
+            ring.day("u03u12u24");
             ring.x.cheapest(5);
-            ring.same("UNITS stay, if there are none", ring.units(), "3 1 1 1 0 0 4 2 2");
+            ring.same("UNITS stay, if there are none", ring.units(), "3 2 4 1 0 0 4 2 2");
+            ring.x.cheapest(6);
+            ring.same("and if there are", ring.units(), "3 2 4 1 0 0 4 2 2");
         });
     }
 
@@ -174,7 +180,9 @@ public final class EdgesOfUnitsTest {
             }
         });
         e.edge("GAP then; the ROW: LENGTH of THE PLAN then (as length()), COST of UNITS then", p -> {
+            p.x.least();
             p.is("without ACTS", p.x.years(5, 1), 0);
+            p.is("two numbers", p.x.count(15), 2);
             p.is("no LENGTH", p.x.row(0), 0);
             for (int seed = 0; seed < 12; seed++) {
                 Probe q = p.fresh("n+1;n+2;a*b;A[0];A[1];B[n]=c");

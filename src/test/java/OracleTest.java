@@ -15,6 +15,7 @@ public final class OracleTest {
     private final List<String> told = new ArrayList<>();
     private int calls = 0;
     private boolean wrong = false;
+    private boolean ringed = false;
 
     private OracleTest(long seed) {
         random = new Random(seed);
@@ -59,6 +60,10 @@ public final class OracleTest {
     }
 
     private String operand(int k, int acts) {
+        // Long ways along BOUNDS against the order of letters, which rings pass more than once.
+        if (ringed && random.nextInt(3) != 0 && k + 1 < acts) {
+            return (char) ('a' + k + 1 + random.nextInt(Math.min(2, acts - k - 1))) + "'";
+        }
         int kind = random.nextInt(10);
         if (kind < 2) {
             return Integer.toString(random.nextInt(10));
@@ -76,6 +81,7 @@ public final class OracleTest {
     private String loopText() {
         int acts = 1 + random.nextInt(10);
         boolean heavy = random.nextInt(3) == 0;
+        ringed = random.nextInt(5) == 0;
         StringBuilder t = new StringBuilder();
         for (int k = 0; k < acts; k++) {
             t.append(k == 0 ? "" : ";");

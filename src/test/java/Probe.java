@@ -5,7 +5,10 @@ import java.util.stream.Collectors;
 import java.util.stream.IntStream;
 import java.util.stream.LongStream;
 
-/** An object under test, with what a test of one sentence asks of it. */
+/**
+ * An object under test, with what a test of one sentence asks of it. To see that nothing changed takes many calls, so
+ * that some objects are asked more than the 512 calls that the document speaks of: the program does not count them.
+ */
 final class Probe {
     static final String ZEROS = "0 0 0 0 0 0 0 0 0 0 0 0 0 0 0 0";
     static final int MAX = Integer.MAX_VALUE;
@@ -30,6 +33,12 @@ final class Probe {
         Probe other = fresh();
         other.loop(loop);
         return other;
+    }
+
+    /** This, with one of UNITS set. */
+    Probe with(int what, int v) {
+        x.sets(what, v);
+        return this;
     }
 
     void same(String what, String got, String want) {

@@ -1,0 +1,245 @@
+import com.sun.source.tree.*;
+import com.sun.source.util.JavacTask;
+import com.sun.source.util.SourcePositions;
+import com.sun.source.util.TreeScanner;
+import com.sun.source.util.Trees;
+import java.io.ByteArrayOutputStream;
+import java.io.IOException;
+import java.io.InputStream;
+import java.io.OutputStream;
+import java.lang.reflect.Method;
+import java.net.URI;
+import java.nio.file.Files;
+import java.nio.file.Path;
+import java.util.ArrayList;
+import java.util.HashMap;
+import java.util.List;
+import java.util.Map;
+import java.util.concurrent.ExecutorService;
+import java.util.concurrent.Executors;
+import java.util.concurrent.Future;
+import java.util.concurrent.TimeUnit;
+import javax.tools.*;
+
+/**
+ * Not a test, but what looks at the tests: the program is changed in one place, again and again, and the sentences'
+ * tests are run; a change that none of them sees is printed. It takes some minutes, so .ci/run leaves it out.
+ */
+public final class Mutants {
+    private static final Path SOURCE = Path.of("src/main/java/LoopsToUnits.java");
+    private static final String[] TESTS = {"EdgesOfTermsTest", "EdgesOfTextsTest", "EdgesOfChangesTest", "EdgesOfBoundsTest",
+        "EdgesOfPlanTest", "EdgesOfPlayedTest", "EdgesOfUnitsTest", "EdgesOfKeptTest"};
+    private static final Map<String, String> OTHERS = Map.ofEntries(Map.entry("<", "<="), Map.entry("<=", "<"), Map.entry(">", ">="),
+            Map.entry(">=", ">"), Map.entry("==", "!="), Map.entry("!=", "=="), Map.entry("+", "-"), Map.entry("-", "+"),
+            Map.entry("*", "+"), Map.entry("/", "*"), Map.entry("%", "/"), Map.entry("&&", "||"), Map.entry("||", "&&"));
+    private static final int SECONDS = 20;
+
+    record Change(int from, int to, String text) {
+    }
+
+    private final String source;
+    private final List<Change> changes = new ArrayList<>();
+
+    private Mutants(String source) {
+        this.source = source;
+    }
+
+    private final class Finder extends TreeScanner<Void, Void> {
+        private final SourcePositions places;
+        private final CompilationUnitTree unit;
+
+        Finder(SourcePositions places, CompilationUnitTree unit) {
+            this.places = places;
+            this.unit = unit;
+        }
+
+        private int start(Tree t) {
+            return (int) places.getStartPosition(unit, t);
+        }
+
+        private int stop(Tree t) {
+            return (int) places.getEndPosition(unit, t);
+        }
+
+        @Override
+        public Void visitBinary(BinaryTree t, Void v) {
+            int from = stop(t.getLeftOperand());
+            int to = start(t.getRightOperand());
+            String between = source.substring(from, to);
+            String sign = between.replaceAll("[\\s()]", "");
+            if (OTHERS.containsKey(sign)) {
+                int at = from + between.indexOf(sign);
+                changes.add(new Change(at, at + sign.length(), OTHERS.get(sign)));
+            }
+            return super.visitBinary(t, v);
+        }
+
+        @Override
+        public Void visitLiteral(LiteralTree t, Void v) {
+            if (t.getValue() instanceof Integer) {
+                int value = (Integer) t.getValue();
+                changes.add(new Change(start(t), stop(t), "(" + (value + 1) + ")"));
+                changes.add(new Change(start(t), stop(t), "(" + (value - 1) + ")"));
+            } else if (t.getValue() instanceof Boolean) {
+                changes.add(new Change(start(t), stop(t), Boolean.toString(!(Boolean) t.getValue())));
+            }
+            return super.visitLiteral(t, v);
+        }
+
+        @Override
+        public Void visitIf(IfTree t, Void v) {
+            int from = start(t.getCondition());
+            int to = stop(t.getCondition());
+            changes.add(new Change(from, to, "(!" + source.substring(from, to) + ")"));
+            return super.visitIf(t, v);
+        }
+
+        @Override
+        public Void visitConditionalExpression(ConditionalExpressionTree t, Void v) {
+            changes.add(new Change(start(t.getCondition()), stop(t.getCondition()),
+                    "!(" + source.substring(start(t.getCondition()), stop(t.getCondition())) + ")"));
+            return super.visitConditionalExpression(t, v);
+        }
+
+        @Override
+        public Void visitExpressionStatement(ExpressionStatementTree t, Void v) {
+            changes.add(new Change(start(t), stop(t), ";"));
+            return super.visitExpressionStatement(t, v);
+        }
+    }
+
+    /** Compiled classes, in memory. */
+    private static final class Memory extends ForwardingJavaFileManager<StandardJavaFileManager> {
+        final Map<String, ByteArrayOutputStream> classes = new HashMap<>();
+
+        Memory(StandardJavaFileManager files) {
+            super(files);
+        }
+
+        @Override
+        public JavaFileObject getJavaFileForOutput(Location where, String name, JavaFileObject.Kind kind, FileObject sibling) {
+            return new SimpleJavaFileObject(URI.create("memory:///" + name + ".class"), kind) {
+                @Override
+                public OutputStream openOutputStream() {
+                    ByteArrayOutputStream bytes = new ByteArrayOutputStream();
+                    classes.put(name, bytes);
+                    return bytes;
+                }
+            };
+        }
+    }
+
+    /** Loads tests anew, with the changed program. */
+    private static final class Loader extends ClassLoader {
+        private final Map<String, ByteArrayOutputStream> changed;
+
+        Loader(Map<String, ByteArrayOutputStream> changed) {
+            super(Mutants.class.getClassLoader());
+            this.changed = changed;
+        }
+
+        @Override
+        protected Class<?> loadClass(String name, boolean resolve) throws ClassNotFoundException {
+            Class<?> known = findLoadedClass(name);
+            if (known != null) {
+                return known;
+            }
+            if (name.contains(".")) {
+                return super.loadClass(name, resolve);
+            }
+            try (InputStream in = getParent().getResourceAsStream(name + ".class")) {
+                byte[] bytes = changed.containsKey(name) ? changed.get(name).toByteArray() : in.readAllBytes();
+                return defineClass(name, bytes, 0, bytes.length);
+            } catch (IOException e) {
+                throw new ClassNotFoundException(name, e);
+            }
+        }
+    }
+
+    private static JavaFileObject text(String code) {
+        return new SimpleJavaFileObject(URI.create("string:///LoopsToUnits.java"), JavaFileObject.Kind.SOURCE) {
+            @Override
+            public CharSequence getCharContent(boolean ignore) {
+                return code;
+            }
+        };
+    }
+
+    private void find() throws IOException {
+        JavaCompiler javac = ToolProvider.getSystemJavaCompiler();
+        JavacTask task = (JavacTask) javac.getTask(null, null, null, null, null, List.of(text(source)));
+        CompilationUnitTree unit = task.parse().iterator().next();
+        new Finder(Trees.instance(task).getSourcePositions(), unit).scan(unit, null);
+    }
+
+    /** Whether a test saw the change (or it does not compile). */
+    private static boolean isSeen(String code) throws Exception {
+        JavaCompiler javac = ToolProvider.getSystemJavaCompiler();
+        Memory memory = new Memory(javac.getStandardFileManager(d -> { }, null, null));
+        if (!javac.getTask(null, memory, d -> { }, List.of("-nowarn"), null, List.of(text(code))).call()) {
+            return true;
+        }
+        Loader loader = new Loader(memory.classes);
+        for (String name : TESTS) {
+            try {
+                Method all = loader.loadClass(name).getDeclaredMethod("all");
+                all.setAccessible(true);
+                Object edges = all.invoke(null);
+                Method faults = edges.getClass().getDeclaredMethod("faults");
+                faults.setAccessible(true);
+                if ((Integer) faults.invoke(edges) > 0) {
+                    return true;
+                }
+            } catch (java.lang.reflect.InvocationTargetException e) {
+                return true;
+            }
+        }
+        return false;
+    }
+
+    private String told(Change c) {
+        int line = (int) source.substring(0, c.from).chars().filter(s -> s == '\n').count() + 1;
+        int from = source.lastIndexOf('\n', c.from) + 1;
+        int to = source.indexOf('\n', c.to);
+        return line + ": " + (source.substring(from, c.from) + " <<" + source.substring(c.from, c.to) + " -> " + c.text + ">> "
+                + source.substring(c.to, to)).strip();
+    }
+
+    private void run() throws Exception {
+        find();
+        ExecutorService hands = Executors.newFixedThreadPool(Runtime.getRuntime().availableProcessors(), r -> {
+            Thread t = new Thread(r);
+            t.setDaemon(true);
+            return t;
+        });
+        ExecutorService watched = Executors.newCachedThreadPool(r -> {
+            Thread t = new Thread(r);
+            t.setDaemon(true);
+            return t;
+        });
+        List<Future<String>> told = new ArrayList<>();
+        for (Change c : changes) {
+            told.add(hands.submit(() -> {
+                Future<Boolean> seen = watched.submit(() -> isSeen(source.substring(0, c.from) + c.text + source.substring(c.to)));
+                try {
+                    return seen.get(SECONDS, TimeUnit.SECONDS) ? null : told(c);
+                } catch (java.util.concurrent.TimeoutException e) {
+                    return null;
+                }
+            }));
+        }
+        int unseen = 0;
+        for (Future<String> one : told) {
+            if (one.get() != null) {
+                unseen++;
+                System.out.println(one.get());
+            }
+        }
+        System.out.println(changes.size() + " changes, " + unseen + " of them unseen");
+        System.exit(0);
+    }
+
+    public static void main(String[] args) throws Exception {
+        new Mutants(Files.readString(SOURCE)).run();
+    }
+}
