@@ -23,7 +23,8 @@ import javax.tools.*;
 
 /**
  * Not a test, but what looks at the tests: the program is changed in one place, again and again, and the sentences'
- * tests are run; a change that none of them sees is printed. It takes some minutes, so .ci/run leaves it out.
+ * tests are run; a change that none of them sees is printed. It takes some minutes, so .ci/run leaves it out; with a
+ * number, each so-many-th change alone is tried.
  */
 public final class Mutants {
     private static final Path SOURCE = Path.of("src/main/java/LoopsToUnits.java");
@@ -205,7 +206,7 @@ public final class Mutants {
                 + source.substring(c.to, to)).strip();
     }
 
-    private void run() throws Exception {
+    private void run(int every) throws Exception {
         find();
         ExecutorService hands = Executors.newFixedThreadPool(Runtime.getRuntime().availableProcessors(), r -> {
             Thread t = new Thread(r);
@@ -218,7 +219,8 @@ public final class Mutants {
             return t;
         });
         List<Future<String>> told = new ArrayList<>();
-        for (Change c : changes) {
+        for (int i = 0; i < changes.size(); i += every) {
+            Change c = changes.get(i);
             told.add(hands.submit(() -> {
                 Future<Boolean> seen = watched.submit(() -> isSeen(source.substring(0, c.from) + c.text + source.substring(c.to)));
                 try {
@@ -235,11 +237,12 @@ public final class Mutants {
                 System.out.println(one.get());
             }
         }
-        System.out.println(changes.size() + " changes, " + unseen + " of them unseen");
+        System.out.println(told.size() + " changes, " + unseen + " of them unseen");
         System.exit(0);
     }
 
     public static void main(String[] args) throws Exception {
-        new Mutants(Files.readString(SOURCE)).run();
+        int every = args.length > 0 ? Math.max(1, Integer.parseInt(args[0])) : 1;
+        new Mutants(Files.readString(SOURCE)).run(every);
     }
 }
