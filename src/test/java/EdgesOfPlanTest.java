@@ -151,6 +151,11 @@ public final class EdgesOfPlanTest {
             p.is("30 PARTS", p.x.length(), 3);
             p.x.sets(6, 1);
             p.is("21 PARTS", p.x.length(), 3);
+            p.loop("n*1;a+1;n+1;n*1");
+            p.x.sets(0, 2);
+            p.x.sets(1, 2);
+            p.is("21 PARTS, and not of the last ACT", p.x.length(), 3);
+            p.x.sets(0, 1);
             p.loop("n+1;A[n]=1");
             p.is("the last READY is no SUM", p.x.length(), 1);
             p.loop("A[n]");
@@ -260,6 +265,25 @@ public final class EdgesOfPlanTest {
             registersAre(p, "n+1;A[a];A[0]=b", 1, "0");
             registersAre(p, "n+1;B[a]=a", 1, "0");
             registersAre(p, "n+1;B[0]=a;A[a]", 1, "0");
+            registersAre(p, "n+1;1*a", 1, "0");
+            registersAre(p, "n+1;B[0]=a", 1, "0");
+            registersAre(p, "n*1;1+a;n+1", 1, "0");
+            registersAre(p, "n+1;n*2;n+3;n*4;n+5;n*6;n+7;n*8;n+9;n*0", 0, "0");
+            registersAre(p, "n+1;n+2;n+3;n+4;n+5;n+6;n+7;n+8;n+9;n+0", 0, "0");
+            Probe shorter = p.fresh("n*1;a*1;a*b;b*a;c*a;d*a;e*a");
+            shorter.x.registers();
+            shorter.loop("n*1;a+1");
+            shorter.is("those of the loop ahead count no more", shorter.x.registers(), 1);
+            shorter.row("0");
+            Probe unused = p.fresh("n*1;n+1;b*1").with(1, 2);
+            unused.is("a is never kept", unused.x.registers(), 1);
+            unused.row("0");
+            Probe ninth = p.fresh("n+1;n+1;n+1;n+1;n+1;n+1;n+1;n+1;n+1;i*1").with(0, 4);
+            ninth.is("i, in TICK 1", ninth.x.registers(), 1);
+            ninth.row("1");
+            Probe late = p.fresh("n*1;a*1;b*1;c*1;d+1").with(1, 3).with(7, 3);
+            late.is("up to TICK 12", late.x.registers(), 2);
+            late.row("0");
         });
         e.edge("(in its own ROUND, or, with ', the ROUND behind, with '' the one behind that)", p -> {
             registersAre(p, "n+1;a'*1", 1, "0");
@@ -267,6 +291,9 @@ public final class EdgesOfPlanTest {
             registersAre(p, "n+1;a*1;a''*1", 2, "0");
             registersAre(p, "a'+1", 1, "0");
             registersAre(p, "a''+1", 2, "0");
+            registersAre(p, "a'+1;1+1;1+1;1+1;1+1;1+1;1+1;1+1;1+1;1+1", 1, "0");
+            registersAre(p, "a''+1;1+1;1+1;1+1;1+1;1+1;1+1;1+1;1+1;1+1", 2, "0");
+            registersAre(p, "1+j';1+1;1+1;1+1;1+1;1+1;1+1;1+1;1+1;1+1", 1, "0");
         });
         e.edge("(each as of all ROUNDS, before and after, too)", p ->
                 registersAre(p, "A[n];a*3;b+1;B[n]=c", 3, "0"));
@@ -292,6 +319,11 @@ public final class EdgesOfPlanTest {
             p.x.sets(1, 3);
             p.is("one TICK", p.x.binds(1), 0);
             p.row("0 1 2");
+            p.loop("n+1;n+1;n+1;a*c");
+            p.is("GAP", p.x.gap(), 2);
+            p.row("0 1 0 1");
+            p.is("TICKS 0, 1 and 0", p.x.binds(0), 0);
+            p.row("0 0 1");
             p.loop("n*1;a*1");
             p.x.sets(1, 1);
             p.is("TICKS 0 and 3", p.x.binds(1), 1);
@@ -309,6 +341,16 @@ public final class EdgesOfPlanTest {
             p.is("the second", p.x.binds(0), 1);
             p.loop("2*n;3*n");
             p.is("the first", p.x.binds(1), 1);
+            p.loop("n+1;2*n;A[n];3*n;5+n");
+            p.is("of PRODUCTS alone", p.x.binds(1), 1);
+            p.row("0 0");
+            p.is("of SUMS alone", p.x.binds(0), 2);
+            p.row("0 0");
+            p.loop("n*1;2+n;A[n];3+n;5*n");
+            p.is("of PRODUCTS alone", p.x.binds(1), 2);
+            p.row("0 0");
+            p.is("of SUMS alone", p.x.binds(0), 1);
+            p.row("0 0");
             p.loop("1+2;2+3;3+4;4+5;5+6;6+7;7+8;8+9;9+0;0+1");
             p.is("ten of each", p.x.binds(0), 18);
             p.row("0 0 0 0 0 0 0 0 0 0");
@@ -398,7 +440,7 @@ public final class EdgesOfPlanTest {
 
     private static void bindsLeast(Edges e) {
         e.edge("SWITCHES are the fewest", p -> {
-            String[] loops = {"n+1;2+n;n+3;2-4;n<1", "n+1;a+1;n+2;a+2;b+1;3+n", "1+2;3+4;1+4;3+2;n*1;5+2", "n+n;a+a;a+n;n+a;b-c;c-b",
+            String[] loops = {"1+2;3+4;0+2;n+n;a*d", "2+1;4+3;2+0;n+n;a*d", "n+1;2+n;n+3;2-4;n<1", "n+1;a+1;n+2;a+2;b+1;3+n", "1+2;3+4;1+4;3+2;n*1;5+2", "n+n;a+a;a+n;n+a;b-c;c-b",
                 "1+2;2+1;1+1;2+2;n+1;1+n", "a'+1;1+a';a''+1;1+a'';b'+1;1+b'"};
             for (String loop : loops) {
                 for (int adders = 1; adders <= 4; adders++) {
@@ -458,6 +500,18 @@ public final class EdgesOfPlanTest {
             p.row("0 0 1");
             p.is("TICKS 0 and 1 are the same modulo 1", p.x.shares(0), 1);
             p.row("1 2");
+            Probe two = p.fresh("A[0];A[1];A[2];A[3];B[5];B[4];B[7];B[6];B[9]").with(2, 2).with(3, 2);
+            two.is("GAP", two.x.gap(), 3);
+            two.row("0 0 1 1 0 0 1 1 2");
+            two.is("of A, in TICKS 0 and 1", two.x.shares(0), 2);
+            two.row("0 1");
+            two.is("of B, in TICKS 0 and 1", two.x.shares(1), 2);
+            two.row("4 5");
+            Probe late = p.fresh("A[n];A[0];A[4];A[1]").with(2, 4);
+            late.is("GAP", late.x.gap(), 3);
+            late.row("0 1 2 1");
+            late.is("in TICK 1 alone", late.x.shares(0), 1);
+            late.row("1 3");
         });
         e.edge("NONE: no such MEMORY", p -> {
             p.loop("A[0];A[1]");

@@ -142,7 +142,45 @@ public final class EdgesOfPlayedTest {
         });
     }
 
+    private static void comesToWhatIsTold(Probe made, String loop) {
+        Probe told = made.fresh(loop);
+        for (int n = 0; n <= 40; n++) {
+            int sum = told.x.plays(n);
+            made.x.machine(n);
+            made.row(told.row() + " " + sum);
+        }
+    }
+
     private static void machineInTick(Edges e) {
+        e.edge("TICK by TICK", p -> {
+            // d begins behind c, in TICK 6.
+            String late = "n*1;a*1;b+1;c+n";
+            Probe made = p.fresh(late).with(0, 2).with(7, 3);
+            made.is("c", made.x.begins(2), 60);
+            made.is("d", made.x.begins(3), 64);
+            comesToWhatIsTold(made, late);
+            String behind = "n*1;a+1;b+n";
+            Probe second = p.fresh(behind).with(0, 2).with(6, 1).with(7, 3);
+            second.is("b", second.x.begins(1), 30);
+            second.is("c", second.x.begins(2), 31);
+            comesToWhatIsTold(second, behind);
+            // The last ACT begins long ahead of the others.
+            String first = "n*1;a*n;b*2;n+1";
+            comesToWhatIsTold(p.fresh(first).with(7, 4), first);
+            // Three SUMS one behind the other, and then an ACT at the begin of that TICK.
+            String three = "n+1;a+1;b+1;n*2";
+            Probe within = p.fresh(three).with(0, 3).with(6, 3);
+            within.is("c", within.x.begins(2), 6);
+            within.is("d", within.x.begins(3), 0);
+            comesToWhatIsTold(within, three);
+            // a begins a PART behind c of the ROUND ahead.
+            String part = "c'+1;n*n;b+1";
+            Probe next = p.fresh(part).with(0, 2).with(6, 1).with(7, 1);
+            next.is("GAP", next.x.gap(), 1);
+            next.is("a", next.x.begins(0), 1);
+            next.is("c", next.x.begins(2), 10);
+            comesToWhatIsTold(next, part);
+        });
         e.edge("n ROUNDS (0 .. 40) are done by THE PLAN, TICK by TICK", p -> {
             // In each TICK d, c and b begin one behind the other, of three ROUNDS, each with the VALUE of the one ahead.
             String loop = "b'+n;c'+n;d'+n;e'+n;n*n";

@@ -178,6 +178,11 @@ public final class EdgesOfTermsTest {
             p.row("0 10 10 10 30");
             p.x.latest(1);
             p.row("6 10 10 30 36");
+            p.x.sets(6, 1);
+            p.x.earliest(1);
+            p.row("0 10 10 10 30");
+            p.x.latest(1);
+            p.row("9 10 10 30 39");
         });
         e.edge("READY: of a SUM DELAY behind its begin, of a PRODUCT LONG TICKS, of a LOAD REACH TICKS, of a STORE one TICK behind", p -> {
             p.loop("n*1;a+1;A[0];c+1;B[0]=1;e+1;n+1;g+1");
@@ -192,6 +197,13 @@ public final class EdgesOfTermsTest {
             p.x.sets(8, 3);
             p.is("LENGTH", p.x.earliest(1), 5);
             p.row("0 40 0 30 0 10 0 5");
+            p.x.sets(6, 1);
+            p.is("LENGTH", p.x.earliest(1), 5);
+            p.row("0 40 0 30 0 10 0 1");
+            p.x.sets(7, 2);
+            p.x.sets(8, 2);
+            p.x.earliest(1);
+            p.row("0 20 0 20 0 10 0 1");
         });
     }
 
@@ -252,10 +264,16 @@ public final class EdgesOfTermsTest {
             far.row("1 4 6 0 0");
             far.x.sets(6, 3);
             far.is("and by a DELAY of 3 for ever", far.x.earliest(1), -2);
+            Probe others = p.fresh("b'<0;c'*0;d'-0;e'<0;a<f';g'*1;h'*1;i'*1;j'*1;1*1").with(6, 2).with(7, 3);
+            others.is("with other SUMS", others.x.earliest(1), 11);
+            others.row("100 80 86 94 102 80 60 40 20 0");
             Probe farther = p.fresh("b'+1;c'+1;d'+d';a+e';1+g';1*1;1+h';f+i';j'+i'';a*c''");
             farther.x.sets(7, 4);
             farther.is("three rings", farther.x.earliest(1), 6);
             farther.row("14 20 24 30 34 0 40 44 50 20");
+            Probe less = p.fresh("b'<1;c'<1;d'<d';a<e';1<g';1*1;1<h';f<i';j'<i'';a*c''").with(7, 4);
+            less.is("three rings of <", less.x.earliest(1), 6);
+            less.row("14 20 24 30 34 0 40 44 50 20");
             Probe slow = p.fresh("c'+1;a+1;b+1");
             slow.is("4 PARTS each TICK are too many", slow.x.earliest(1), -2);
             slow.is("12 PARTS in 2 TICKS", slow.x.earliest(2), 2);
@@ -317,6 +335,11 @@ public final class EdgesOfTermsTest {
             p.is("16 PARTS", p.x.earliest(1), 2);
             p.x.sets(6, 10);
             p.is("20 PARTS", p.x.earliest(1), 2);
+            Probe least = p.fresh("n+1").with(6, 1);
+            least.is("1 PART", least.x.earliest(1), 1);
+            Probe late = p.fresh("n*1;a+1;n+1").with(6, 1);
+            late.is("21 PARTS, and not of the last ACT", late.x.earliest(1), 3);
+            late.row("0 20 0");
         });
         e.edge("LATEST by G: the greatest TIMES by which all BOUNDS hold and READY of each is not behind LENGTH TICKS", p -> {
             p.loop("n+1;a+1;n*1;A[n];B[n]=1");
@@ -337,6 +360,19 @@ public final class EdgesOfTermsTest {
             chain.x.sets(6, 6);
             chain.x.latest(1);
             chain.row("4 14 24 34 44 54 64 74 84 94");
+            chain.x.sets(6, 1);
+            chain.x.latest(1);
+            chain.row("0 1 2 3 4 5 6 7 8 9");
+            Probe least = p.fresh("n+1;a+1;n+2").with(6, 1);
+            least.x.latest(1);
+            least.row("8 9 9");
+            Probe longest = p.fresh("n*1;a*1;b*1;c*1;d*1;e*1;f*1;g*1;h*1;i*1").with(7, 4);
+            longest.is("all as in EARLIEST", longest.x.latest(1), 10);
+            longest.row("0 40 80 120 160 200 240 280 320 360");
+            // TIMES that sink as many as 19 times, if they do so one behind the other.
+            Probe far = p.fresh("1+j';a+g'';1*b;a*1;d+a;c+e;f+a;g+g';h+h;i+h'").with(6, 2).with(7, 4);
+            far.x.latest(6);
+            far.row("6 8 10 10 54 56 58 60 62 64");
             Probe ring = p.fresh("A[0]=1;n*1;A[b]");
             ring.x.latest(2);
             ring.row("10 0 20");
@@ -379,6 +415,16 @@ public final class EdgesOfTermsTest {
             p.loop("n*1;n*2;b*3");
             p.is("plan(3)", p.x.plan(3), 1);
             p.row("1 0 2");
+            Probe ahead = p.fresh("n*1;n*2;n*3;c*1");
+            ahead.x.latest(4);
+            ahead.row("20 20 0 20");
+            ahead.is("plan(4)", ahead.x.plan(4), 1);
+            ahead.row("1 2 0 3");
+            Probe part = p.fresh("n+1;n+2;b+3").with(6, 1);
+            part.is("LATEST that are a PART from another", part.x.latest(3), 0);
+            part.row("9 8 9");
+            part.is("plan(3)", part.x.plan(3), 1);
+            part.row("1 0 2");
         });
         e.edge("(of equal ones of their letters)", p -> {
             p.loop("n*1;n*2;n*3");
@@ -396,6 +442,21 @@ public final class EdgesOfTermsTest {
             back.is("by 2, less 2 TICKS", back.x.plan(2), 1);
             back.row("0 1 1");
             p.is("TIME", back.x.begins(2), 10);
+            Probe fourth = p.fresh("n*1;n*2;n+1;b'+a'").with(0, 2);
+            fourth.is("by 2", fourth.x.plan(2), 1);
+            fourth.row("0 1 0 1");
+            Probe first = p.fresh("c'+b';n*1;n*2");
+            first.is("by 2", first.x.plan(2), 1);
+            first.row("1 0 1");
+            Probe part = p.fresh("n*1;n*2;a+b").with(6, 1);
+            part.is("by 2", part.x.gap(), 2);
+            part.is("not a PART ahead of READY", part.x.begins(2), 30);
+            Probe both = p.fresh("n+1;n+2;a+b'").with(0, 3);
+            both.is("by 1", both.x.gap(), 1);
+            both.is("by a; b' is READY long ago", both.x.begins(2), 4);
+            Probe late = p.fresh("n*1;a*1;b*1;c*1;c*2").with(7, 3);
+            late.is("by 20", late.x.plan(20), 1);
+            late.row("0 3 6 9 10");
         });
         e.edge("of the TICKS from the one where that begins on, G are looked at", p -> {
             p.loop("n*1;n*2;a*b");
@@ -427,10 +488,15 @@ public final class EdgesOfTermsTest {
             p.x.sets(1, 2);
             p.is("nor if it need not wait", p.x.plan(2), 1);
             p.row("0 0");
+            // By 2 TICK 1 has no ROOM for e, and in TICK 2 it is READY one PART too late for b of the ROUND behind.
+            Probe part = p.fresh("n*1;e'+1;a+1;a+2;a+3;c*d").with(0, 2).with(1, 2).with(6, 1).with(7, 1);
+            part.is("by a PART", part.x.plan(2), 0);
+            part.is("GAP", part.x.gap(), 3);
+            part.row("0 0 1 1 2 2");
         });
     }
 
-    /** GAP of LOADS of n (b) and n+d (c), the second in the TICK behind. */
+    /** GAP of LOADS of n (b) and n+d (c), the second in the TICK behind; or of two that are d - 1 apart, in one TICK. */
     private static int gapOfRounds(int way, int banks, int d) {
         for (int r = 0; r < 16; r++) {
             if (bank(way, banks, (r + d) % 16) == bank(way, banks, (r + 1) % 16)) {
@@ -479,6 +545,16 @@ public final class EdgesOfTermsTest {
                 q.x.sets(2, banks);
                 q.x.sets(4, way);
                 q.is("GAP of n+" + d + ", BANKS " + banks + ", WAY " + way, q.x.gap(), gapOfRounds(way, banks, d));
+            }
+            for (int code = 0; code < 600; code++) {
+                int banks = 1 << code % 3;
+                int way = code / 3 % 2;
+                int more = code / 6 % 10;
+                int less = code / 60;
+                Probe q = p.fresh("n+" + more + ";n-" + less + ";B[a];B[b]").with(0, 2);
+                q.x.sets(3, banks);
+                q.x.sets(5, way);
+                q.is("GAP of n+" + more + ", n-" + less + ", BANKS " + banks + ", WAY " + way, q.x.gap(), gapOfRounds(way, banks, more + less + 1));
             }
             Probe any = p.fresh("A[n];A[0]");
             any.x.sets(2, 4);

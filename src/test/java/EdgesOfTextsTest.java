@@ -158,6 +158,11 @@ public final class EdgesOfTextsTest {
             p.refusesText("A[b']", p.x::loop, -200);
             p.refusesText("A[1]=j''", p.x::loop, -200);
             p.refusesText("j'+1;" + TEN.substring(8), p.x::loop, -200);
+            p.refusesText("j'+a'", p.x::loop, -200);
+            p.refusesText("1+1;c'+b'", p.x::loop, -200);
+            p.refusesText("c'+1;b'+a'", p.x::loop, -200);
+            p.refusesText("b'+c';1+1", p.x::loop, -200);
+            p.refusesText("A[b'']=a'", p.x::loop, -200);
             p.is("j of 10", p.loop("j'+1;" + TEN.substring(4)), 10);
             p.refusesLoop("c'+1;x", 5);
             p.refusesLoop("c'+", 3);
@@ -189,9 +194,9 @@ public final class EdgesOfTextsTest {
     private static void loopWrong(Edges e) {
         e.edge("-1 - p: the sign at p can't stand there", p -> {
             p.loop("n+1;a*2");
-            String[] wrong = {"x", "+1", "n", "n/1", "n+x", "n+1x", "n+1;x", "A(n]", "AA[n]", "A[n)", "A[+]", "A[n]+1", "A[n]==1",
+            String[] wrong = {"x", "+1", "n", "n/1", "n+x", "n+1x", "n+1;x", "A(n]", "AA[n]", "A[n)", "A[+]", "A[]", "B[]=1", "A[1]=]", "A[n]+1", "A[n]==1",
                 "A[n]=1+1", "C[n]", "a'''+1", "n'+1", "1'+1", "n+1;;a+1", ";n+1", " n+1", "n+1 ", "N+1", "@[n]", "n+1,n+2", "n>1", "n=1"};
-            int[] at = {0, 0, 1, 1, 2, 3, 4, 1, 1, 3, 2, 4, 5,
+            int[] at = {0, 0, 1, 1, 2, 3, 4, 1, 1, 3, 2, 2, 2, 5, 4, 5,
                 6, 0, 3, 1, 1, 4, 0, 0, 3, 0, 0, 3, 1, 1};
             for (int i = 0; i < wrong.length; i++) {
                 p.refusesLoop(wrong[i], at[i]);

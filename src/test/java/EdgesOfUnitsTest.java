@@ -170,7 +170,8 @@ public final class EdgesOfUnitsTest {
     private static void years(Edges e) {
         e.promise(34);
         e.edge("A DRAW of n: R = R times 1103515245 + 12345 (as ints; R is seed at first), (R without sign, by 65536) % n", p -> {
-            for (int seed : new int[] {0, 1, 2, 3, 4, 5, 6, 7, 8, 9, -1, -2, 12345, -98765, Probe.MAX, Probe.MIN}) {
+            // By the last two the first R ends with 16 bits of 1, and of 0.
+            for (int seed : new int[] {0, 1, 2, 3, 4, 5, 6, 7, 8, 9, -1, -2, 12345, -98765, Probe.MAX, Probe.MIN, -1843676386, -1787779453}) {
                 Probe q = p.fresh();
                 for (int n : new int[] {1, 2, 20}) {
                     q = p.fresh("n+1;a*2;A[b];B[n]=c");

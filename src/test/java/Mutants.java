@@ -15,10 +15,10 @@ import java.util.ArrayList;
 import java.util.HashMap;
 import java.util.List;
 import java.util.Map;
+import java.util.TreeMap;
 import java.util.concurrent.ExecutorService;
 import java.util.concurrent.Executors;
 import java.util.concurrent.Future;
-import java.util.concurrent.TimeUnit;
 import javax.tools.*;
 
 /**
@@ -32,8 +32,9 @@ public final class Mutants {
         "EdgesOfPlanTest", "EdgesOfPlayedTest", "EdgesOfUnitsTest", "EdgesOfKeptTest"};
     private static final Map<String, String> OTHERS = Map.ofEntries(Map.entry("<", "<="), Map.entry("<=", "<"), Map.entry(">", ">="),
             Map.entry(">=", ">"), Map.entry("==", "!="), Map.entry("!=", "=="), Map.entry("+", "-"), Map.entry("-", "+"),
-            Map.entry("*", "+"), Map.entry("/", "*"), Map.entry("%", "/"), Map.entry("&&", "||"), Map.entry("||", "&&"));
-    private static final int SECONDS = 20;
+            Map.entry("*", "+"), Map.entry("/", "*"), Map.entry("%", "/"), Map.entry("&&", "||"), Map.entry("||", "&&"),
+            Map.entry("&", "|"), Map.entry("|", "&"), Map.entry("<<", ">>"), Map.entry(">>", "<<"), Map.entry(">>>", ">>"));
+    private static final int SECONDS = 10;
 
     record Change(int from, int to, String text) {
     }
@@ -62,6 +63,14 @@ public final class Mutants {
             return (int) places.getEndPosition(unit, t);
         }
 
+        private void put(Tree t, String text) {
+            changes.add(new Change(start(t), stop(t), text));
+        }
+
+        private String words(Tree t) {
+            return source.substring(start(t), stop(t));
+        }
+
         @Override
         public Void visitBinary(BinaryTree t, Void v) {
             int from = stop(t.getLeftOperand());
@@ -72,7 +81,111 @@ public final class Mutants {
                 int at = from + between.indexOf(sign);
                 changes.add(new Change(at, at + sign.length(), OTHERS.get(sign)));
             }
+            if (sign.equals("&&") || sign.equals("||")) {
+                put(t, "(" + words(t.getLeftOperand()) + ")");
+                put(t, "(" + words(t.getRightOperand()) + ")");
+            }
             return super.visitBinary(t, v);
+        }
+
+        @Override
+        public Void visitCompoundAssignment(CompoundAssignmentTree t, Void v) {
+            put(t, words(t.getVariable()) + " = " + words(t.getExpression()));
+            return super.visitCompoundAssignment(t, v);
+        }
+
+        @Override
+        public Void visitUnary(UnaryTree t, Void v) {
+            if (t.getKind() == Tree.Kind.UNARY_MINUS || t.getKind() == Tree.Kind.LOGICAL_COMPLEMENT) {
+                put(t, "(" + words(t.getExpression()) + ")");
+            }
+            return super.visitUnary(t, v);
+        }
+
+        @Override
+        public Void visitMethodInvocation(MethodInvocationTree t, Void v) {
+            String called = words(t.getMethodSelect());
+            if (t.getArguments().size() == 2 && (called.equals("Math.max") || called.equals("Math.min"))) {
+                put(t, "(" + words(t.getArguments().get(0)) + ")");
+                put(t, "(" + words(t.getArguments().get(1)) + ")");
+            }
+            if (t.getArguments().size() == 2 && !called.equals("Math.max") && !called.equals("Math.min")) {
+                put(t, called + "(" + words(t.getArguments().get(1)) + ", " + words(t.getArguments().get(0)) + ")");
+            }
+            return super.visitMethodInvocation(t, v);
+        }
+
+        @Override
+        public Void visitReturn(ReturnTree t, Void v) {
+            if (t.getExpression() != null) {
+                put(t.getExpression(), "(" + words(t.getExpression()) + ") + 1");
+                put(t.getExpression(), "!(" + words(t.getExpression()) + ")");
+            }
+            return super.visitReturn(t, v);
+        }
+
+        @Override
+        public Void visitCase(CaseTree t, Void v) {
+            if (t.getStatements() != null && t.getStatements().isEmpty()) {
+                put(t, "");
+            }
+            return super.visitCase(t, v);
+        }
+
+        /** By name the type, of what the method at hand is given or makes. */
+        private final Map<String, String> locals = new TreeMap<>();
+
+        @Override
+        public Void visitMethod(MethodTree t, Void v) {
+            locals.clear();
+            new TreeScanner<Void, Void>() {
+                @Override
+                public Void visitVariable(VariableTree variable, Void none) {
+                    locals.put(variable.getName().toString(), variable.getType().toString());
+                    return super.visitVariable(variable, none);
+                }
+            }.scan(t, null);
+            super.visitMethod(t, v);
+            locals.clear();
+            return null;
+        }
+
+        @Override
+        public Void visitIdentifier(IdentifierTree t, Void v) {
+            putNeighbours(t);
+            String name = t.getName().toString();
+            for (Map.Entry<String, String> other : locals.entrySet()) {
+                if (other.getValue().equals(locals.get(name)) && !other.getKey().equals(name)) {
+                    put(t, other.getKey());
+                }
+            }
+            return super.visitIdentifier(t, v);
+        }
+
+        @Override
+        public Void visitMemberSelect(MemberSelectTree t, Void v) {
+            putNeighbours(t);
+            return super.visitMemberSelect(t, v);
+        }
+
+        @Override
+        public Void visitArrayAccess(ArrayAccessTree t, Void v) {
+            putNeighbours(t);
+            return super.visitArrayAccess(t, v);
+        }
+
+        /** What is no number, or is what is set, does not compile then, and counts as seen. */
+        private void putNeighbours(Tree t) {
+            if (start(t) >= 0 && stop(t) > start(t)) {
+                put(t, "(" + words(t) + " + 1)");
+                put(t, "(" + words(t) + " - 1)");
+            }
+        }
+
+        @Override
+        public Void visitBreak(BreakTree t, Void v) {
+            put(t, ";");
+            return super.visitBreak(t, v);
         }
 
         @Override
@@ -206,29 +319,39 @@ public final class Mutants {
                 + source.substring(c.to, to)).strip();
     }
 
+    /** What told() says of a change that no test sees; null of one that a test sees, does not end by, or does not compile. */
+    private String tried(Change c) throws InterruptedException {
+        boolean[] unseen = {false};
+        Thread one = new Thread(() -> {
+            try {
+                unseen[0] = !isSeen(source.substring(0, c.from) + c.text + source.substring(c.to));
+            } catch (Exception e) {
+                throw new IllegalStateException(e);
+            }
+        });
+        one.setDaemon(true);
+        one.start();
+        one.join(SECONDS * 1000L);
+        boolean ended = !one.isAlive();
+        end(one);
+        return ended && unseen[0] ? told(c) : null;
+    }
+
+    /** Changed programs that never end would take all the processors, in time. */
+    @SuppressWarnings("deprecation")
+    private static void end(Thread t) {
+        if (t.isAlive()) {
+            t.stop();
+        }
+    }
+
     private void run(int every) throws Exception {
         find();
-        ExecutorService hands = Executors.newFixedThreadPool(Runtime.getRuntime().availableProcessors(), r -> {
-            Thread t = new Thread(r);
-            t.setDaemon(true);
-            return t;
-        });
-        ExecutorService watched = Executors.newCachedThreadPool(r -> {
-            Thread t = new Thread(r);
-            t.setDaemon(true);
-            return t;
-        });
+        ExecutorService hands = Executors.newFixedThreadPool(Runtime.getRuntime().availableProcessors());
         List<Future<String>> told = new ArrayList<>();
         for (int i = 0; i < changes.size(); i += every) {
             Change c = changes.get(i);
-            told.add(hands.submit(() -> {
-                Future<Boolean> seen = watched.submit(() -> isSeen(source.substring(0, c.from) + c.text + source.substring(c.to)));
-                try {
-                    return seen.get(SECONDS, TimeUnit.SECONDS) ? null : told(c);
-                } catch (java.util.concurrent.TimeoutException e) {
-                    return null;
-                }
-            }));
+            told.add(hands.submit(() -> tried(c)));
         }
         int unseen = 0;
         for (Future<String> one : told) {
